@@ -128,6 +128,7 @@ public final class PromisesTest {
         refused("just above", x.slope(37, -12, 1, 2), 3);
         refused("just below 0", x.slope(-17, 12, 1, 2), 3);
         refused("far above", x.slope(1000, 20, 1, 50), 3);
+        refused("far below", x.slope(-1000, 20, 1, 50), 3);
         done("20", x.slope(20, 0, 1, 0), 0);
         done("20 again", x.slope(1000, 0, 50, 0), 1);
         done("just above 0", x.slope(17, -12, 1, 2), 2);
@@ -141,6 +142,8 @@ public final class PromisesTest {
         begin("3 row");
         tell(0, 0, 0, 100, 5);
         tell(1, 1, 7, -1);
+        tell(2, 2, -3, 3, 3);
+        refused("the first is no step", x.row(2, 2, 3), 3);
         tell(2, 2, 3, 3, 3);
         refused("sheet", x.row(-1, 0, 1), 1);
         refused("sheet", x.row(4, 0, 1), 1);
@@ -440,8 +443,31 @@ public final class PromisesTest {
         due("whole", x.nearer(2, 1), -1);
         due("third", x.nearer(3, 1), 3);
         due("i", x.nearer(0, -1), -1);
+        x.slope(9, 1, 51, 6);
+        x.slope(5, 3, 7, 12);
+        due("up to 2000", lastNearer(4), 2000);
+        checks.holds("and no further: 2001 is the next line", lastNearer(5) < 2001 && hasLine(5, 2001));
+        x.drop(1);
+        x.drop(1);
         due("slope", x.nearer(4, 0), -1);
         due("slope", x.nearer(-1, 0), -1);
+    }
+
+    private int lastNearer(int slope) {
+        int last = -1;
+        for (int i = 0; i < 20 && x.nearer(slope, i) > 0; i++) {
+            last = x.nearer(slope, i);
+        }
+        return last;
+    }
+
+    private boolean hasLine(int slope, int line) {
+        for (int i = 0; i < 20; i++) {
+            if (x.line(slope, i) == line) {
+                return true;
+            }
+        }
+        return false;
     }
 
     private void within() {
@@ -457,6 +483,11 @@ public final class PromisesTest {
         due("0 is in", x.within(1, 0, 1, 8), 8);
         due("below is not in", x.within(1, 13, 15, 40), -1);
         due("none", x.within(1, 1, 2, 80), -1);
+        x.slope(0, 1, 10, 6);
+        due("as far as 2000", x.within(2, 897, 898, 1000), 2000);
+        due("no further", x.within(2, 142, 143, 1000), -1);
+        x.drop(1);
+        due("all of one", x.within(0, 0, 1, 1), 1);
         due("nothing between", x.within(0, 3, 3, 10), -1);
         due("the wrong way", x.within(0, 4, 3, 10), -1);
         due("q", x.within(0, 0, 0, 0), -1);
@@ -486,6 +517,12 @@ public final class PromisesTest {
         due("whole", x.line(2, 1), -1);
         due("i", x.line(0, -1), -1);
         due("slope", x.line(4, 0), -1);
+        x.slope(65, 11, 86, 47);
+        x.slope(17, 5, 98, 47);
+        checks.holds("a line of 10000", hasLine(4, 10000));
+        checks.holds("none of 10001", !hasLine(5, 10001));
+        x.drop(1);
+        x.drop(1);
         int[] hundred = {0, 0, 1, 0, 1, 0, 0, 0, 0, 1, 0};
         for (int i = 0; i < hundred.length; i++) {
             due("digit(0, 100, " + i + ")", x.digit(0, 100, i), hundred[i]);
@@ -535,6 +572,15 @@ public final class PromisesTest {
         x.slope(20, 0, 1, 0);
         x.slope(20, 0, 19, 0);
         due("19 is told by none", x.share(0, 1), 19);
+        x.slope(1, 1, 2, 5);
+        x.slope(3, 1, 2, 6);
+        due("alike but for the root", x.share(2, 3), 7);
+        x.slope(0, 1, 1, 2);
+        x.slope(3, 1, 2, 2);
+        due("the roots would fit", x.share(4, 5), 2);
+        x.slope(2, 1, 1, 2);
+        x.slope(4, 1, 3, 2);
+        due("what is beside the roots would fit", x.share(6, 7), 2);
     }
 
     private void askingRows() {
@@ -934,6 +980,9 @@ public final class PromisesTest {
         done("as told", x.forge(2, 7, 0), -5);
         done("anew", x.sheet(0, 1, 8), 1);
         done("all are 0", x.forge(2, 7, 0), 0);
+        x.cell(0, 0, 9);
+        x.sheet(0, 1, 8);
+        done("the first too", x.forge(2, 0, 0), 0);
         refused("refused", x.sheet(0, 1, 41), 1);
         done("changes nothing", x.forge(2, 7, 0), 0);
     }

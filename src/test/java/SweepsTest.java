@@ -5,7 +5,9 @@ public final class SweepsTest {
     /** Two slopes that nearly share out all numbers, and the least number that is told twice or not at all. */
     private static final int[][] NEARLY_SHARED = {{56, 6, 34, 5, 54, 7, 37, 7, -2}, {-5, 7, 5, 6, 27, 6, 22, 3, -2},
         {11, 11, 36, 7, 12, 10, 3, 3, -2}, {7, 2, 11, 6, 22, 2, 2, 5, 4989}, {16, -3, 7, 3, 27, 3, 11, 2, 3288},
-        {27, 3, 7, 3, 23, -4, 11, 5, 1687}, {16, 4, 4, 5, 18, -2, 11, 6, 554}};
+        {27, 3, 7, 3, 23, -4, 11, 5, 1687}, {16, 4, 4, 5, 18, -2, 11, 6, 554},
+        {224, 15, 66, 50, 23, 14, 96, 48, 5000}, {7, 18, 70, 20, 565, -18, 100, 13, 5000},
+        {147, 9, 27, 38, 110, 1, 100, 29, -2}, {-41, 14, 16, 27, 176, -8, 70, 19, -2}};
     private final Checks checks = new Checks();
     private final PlainSteps plain = new PlainSteps();
     private final EvenSteps subject = new EvenSteps();
