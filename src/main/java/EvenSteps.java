@@ -228,9 +228,9 @@ public final class EvenSteps {
         }
         int left = number;
         for (int higher = s.lineCount - 1; higher > i; higher--) {
-            left = Math.floorMod(left, s.lines[higher]);
+            left = Math.floorMod(left, Math.max(1, s.lines[higher]));
         }
-        return Math.floorDiv(left, s.lines[i]);
+        return Math.floorDiv(left, Math.max(1, s.lines[i]));
     }
 
     public int line(int slope, int i) {
