@@ -90,9 +90,13 @@ final class HostEdges extends Edges {
         refused(1, y -> y.act(2, 3, 1));
         refused(1, y -> y.act(0, 4, 1));
         askedEach((y, i) -> y.trace(i), 21, 12, -1);
+        taken(2, y -> y.cut(0, 0, 1, 0, 2));
+        taken(6, y -> y.act(2, 3, 2));
+        askedEach((y, i) -> y.trace(i), 13, 11, 40, 10, 41, 12, -1);
+        taken(2, y -> y.drop(0));
         taken(1, y -> y.drop(0));
         taken(0, y -> y.drop(0));
-        askedEach((y, i) -> y.trace(i), 21, 12, -1);
+        askedEach((y, i) -> y.trace(i), 13, 11, 40, 10, 41, 12, -1);
 
         sentence(0, "the first 50 are kept");
         taken(0, y -> y.slope(1, 0, 1, 0));
@@ -420,7 +424,9 @@ final class HostEdges extends Edges {
         }
         Call[] takenCalls = {y -> y.slope(1, 0, 1, 0), y -> y.sheet(0, 0, 1) - 1, y -> y.cell(0, 0, 1) - 1,
             y -> y.row(0, 0, 1), y -> y.even(0, 0, 1) - 1, y -> y.ring(2, 2) - 2, y -> y.cut(0, 0, 1, 0, 1) - 3,
-            y -> y.points(0) - 4, y -> y.drop(0) - 4, y -> y.act(0, 2, 0), y -> y.forge(1, 0, 0)};
+            y -> y.points(0) - 4, y -> y.drop(0) - 4, y -> y.act(0, 0, 0), y -> y.act(0, 1, 0), y -> y.act(0, 2, 0),
+            y -> y.act(0, 3, 0), y -> y.slope(1, 0, 1, 0) - 1, y -> y.drop(1) - 1, y -> y.sheet(0, -1, 0) - 1,
+            y -> y.forge(1, 0, 0)};
         for (Call call : takenCalls) {
             refused(15, y -> y.forge(5, 0, 0));
             taken(0, call);

@@ -68,6 +68,8 @@ final class NumberEdges extends Edges {
         asked(21, y -> y.spread(3, 7));
         asked(73, y -> y.spread(3, 8));
         asked(109, y -> y.spread(5, 8));
+        // 10110 10110 101
+        asked(0b1010110101101, y -> y.spread(8, 13));
 
         sentence(28, "SPREAD: the bits, the first place the lowest. -1: no such.");
         asked(-1, y -> y.spread(0, 0));

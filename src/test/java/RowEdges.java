@@ -399,6 +399,15 @@ final class RowEdges extends Edges {
         taken(0, y -> y.drop(1));
         refused(3, y -> y.drop(0));
         refused(3, y -> y.drop(1));
+        anew();
+        fillSlopes();
+        fillRows();
+        taken(7, y -> y.drop(1));
+        taken(9, y -> y.drop(0));
+        taken(9, y -> y.points(6));
+        refused(3, y -> y.drop(1));
+        taken(9, y -> y.drop(0));
+        taken(6, y -> y.drop(1));
     }
 
     private void counts() {

@@ -252,6 +252,8 @@ final class SlopeEdges extends Edges {
         askedEach((y, i) -> y.quotient(2, i), 1, 1, 1, 1, 1, 1, 1, 1, 1, 1, 1, 1, 1, 1, 1, 1, 1, 1, 1, 1, -1, -1);
         askedEach((y, i) -> y.quotient(3, i), 0, 19799);
         askedEach((y, i) -> y.quotient(4, i), 16, 5, 1, 1, 5, -1);
+        taken(5, y -> y.slope(3, -1, 1, 2));
+        askedEach((y, i) -> y.quotient(5, i), 1, 1, 1, 2, 2, 2);
 
         sentence(12, "QUOTIENT i of a SLOPE. -1: none such.");
         asked(-1, y -> y.quotient(0, 0));
@@ -479,6 +481,11 @@ final class SlopeEdges extends Edges {
         asked(1, y -> y.share(0, 0));
         asked(1, y -> y.share(5, 5));
         asked(2, y -> y.share(4, 5));
+        // 2 roots of 8, by 4, are the root of 2
+        taken(6, y -> y.slope(0, 2, 4, 8));
+        asked(0, y -> y.share(6, 3));
+        asked(0, y -> y.share(3, 6));
+        asked(1, y -> y.share(6, 2));
 
         sentence(27, "the least number that is told twice or not at all, up to 5000 (-2: there is none up to there)");
         taken(0, y -> y.slope(224, 15, 66, 50));
@@ -503,16 +510,34 @@ final class SlopeEdges extends Edges {
         taken(3, y -> y.slope(20, 0, 19, 0));
         taken(4, y -> y.slope(1, 0, 100, 0));
         taken(5, y -> y.slope(2, 0, 3, 0));
+        taken(6, y -> y.slope(1, 0, 1, 0));
+        taken(7, y -> y.slope(3, 0, 2, 0));
         // a half tells 1 and 2 twice; 51 / 100 tells 1 twice; two thirds tell 1 once, 2 twice
         asked(1, y -> y.share(0, 2));
         asked(1, y -> y.share(2, 0));
         asked(1, y -> y.share(1, 2));
         asked(1, y -> y.share(2, 1));
         asked(1, y -> y.share(4, 4));
+        asked(1, y -> y.share(4, 6));
+        asked(1, y -> y.share(7, 4));
+        asked(1, y -> y.share(0, 6));
+        asked(1, y -> y.share(7, 0));
         asked(2, y -> y.share(5, 2));
         asked(2, y -> y.share(2, 5));
         asked(19, y -> y.share(2, 3));
         asked(19, y -> y.share(3, 2));
+        anew();
+        // pairs that would share out all numbers, were a root another one, or left out, or the rest left out
+        taken(0, y -> y.slope(1, 1, 2, 5));
+        taken(1, y -> y.slope(3, 1, 2, 6));
+        taken(2, y -> y.slope(0, 1, 1, 2));
+        taken(3, y -> y.slope(3, 1, 2, 2));
+        taken(4, y -> y.slope(2, 1, 1, 2));
+        taken(5, y -> y.slope(4, 1, 3, 2));
+        asked(7, y -> y.share(0, 1));
+        asked(7, y -> y.share(1, 0));
+        asked(2, y -> y.share(2, 3));
+        asked(2, y -> y.share(4, 5));
 
         sentence(27, "-1: no such.");
         asked(-1, y -> y.share(0, 0));
