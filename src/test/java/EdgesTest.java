@@ -7,7 +7,7 @@ public final class EdgesTest {
         Sentences sentences = new Sentences();
         Edges[] groups = {new SlopeEdges(checks, sentences), new RowEdges(checks, sentences),
             new StretchEdges(checks, sentences), new PointEdges(checks, sentences), new NumberEdges(checks, sentences),
-            new HostEdges(checks, sentences)};
+            new HostEdges(checks, sentences), new TermRules(checks, sentences)};
         for (Edges group : groups) {
             group.run();
             group.end();
