@@ -97,6 +97,18 @@ abstract class Edges {
         long on(EvenSteps x, int number);
     }
 
+    final void clash(int row, int from, int n, long... due) {
+        askedEach((y, what) -> y.clash(row, from, n, what), due);
+    }
+
+    final void range(int row, int from, int n, long... due) {
+        askedEach((y, what) -> y.range(row, from, n, what), due);
+    }
+
+    final void gap(int row, int n, int sort, long... due) {
+        askedEach((y, what) -> y.gap(row, n, sort, what), due);
+    }
+
     /** Makes SHEET 3 one of ints with these numbers, and a ROW of them: its number. */
     final int told(int... steps) {
         sheet(3, 1, steps);

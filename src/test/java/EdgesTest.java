@@ -1,6 +1,6 @@
 import java.io.IOException;
 
-/** The sentences of the document that name an edge: each has a test of its own. */
+/** The sentences of the document: each has a test of its own, those that name an edge and those that do not. */
 public final class EdgesTest {
     public static void main(String[] args) throws IOException {
         Checks checks = new Checks();
@@ -13,7 +13,8 @@ public final class EdgesTest {
             group.end();
         }
         for (int promise = 0; promise <= sentences.promises(); promise++) {
-            checks.holds("promise " + promise + " has a test of an edge", sentences.isQuoted(promise));
+            String untested = sentences.unquoted(promise);
+            checks.holds("promise " + promise + " without a test: " + untested, untested.isEmpty());
         }
         checks.end();
     }

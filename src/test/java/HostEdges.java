@@ -219,7 +219,7 @@ final class HostEdges extends Edges {
     }
 
     private void forgeBounds() {
-        sentence(36, "(STATUS 1: another; n or k outside -100 .. 100)");
+        sentence(36, "What the host does, by what (STATUS 1: another; n or k outside -100 .. 100)");
         for (int what : new int[] {-1, 7, LEAST, MOST}) {
             refused(1, y -> y.forge(what, 1, 1));
         }
@@ -319,7 +319,8 @@ final class HostEdges extends Edges {
     }
 
     private void forgeCopies() {
-        sentence(36, "from its number 1 on, are copied to a row of 6 from place n on: 10, 12 (n below 0, "
+        sentence(36, "3 n numbers of SHEET k modulo 4, taken for one of sort 0 (11), from its number 1 on, "
+                + "are copied to a row of 6 from place n on: 10, 12 (n below 0, "
                 + "or they do not stand there in both; also if it has no numbers at all); answers their sum.");
         refused(10, y -> y.forge(3, 0, 0));
         sheet(0, 0, 50, 1, -20, 100, 7, 7, 7);

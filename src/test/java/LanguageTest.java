@@ -95,7 +95,8 @@ public final class LanguageTest {
                 }
             }
             checks.holds(inside + " has few fields", fields <= 20);
-            checks.same(inside + " holds classes", inside == EvenSteps.class ? 0 : inside.getDeclaredClasses().length, 0);
+            int within = inside == EvenSteps.class ? 0 : inside.getDeclaredClasses().length;
+            checks.same(inside + " holds classes", within, 0);
             if (inside != EvenSteps.class) {
                 checks.holds(inside + " is static", Modifier.isStatic(inside.getModifiers()));
                 checks.holds(inside + " is not public", !Modifier.isPublic(inside.getModifiers()));

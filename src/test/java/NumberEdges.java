@@ -88,7 +88,7 @@ final class NumberEdges extends Edges {
 
     private void turning() {
         sentence(29, "Where the least turning of m bits (1 .. 40; the first place the lowest bit; "
-                + "bits beyond m do not matter) begins");
+                + "bits beyond m do not matter) begins: read from that place on");
         asked(0, y -> y.turning(0, 1));
         asked(0, y -> y.turning(1, 1));
         asked(0, y -> y.turning(0, 40));
@@ -105,7 +105,7 @@ final class NumberEdges extends Edges {
         asked(1, y -> y.turning(0b11101, 3));
         asked(2, y -> y.turning(0b00011, 3));
 
-        sentence(29, "they are least (a 0 ahead of a 1), the first such place. -1: no such.");
+        sentence(29, "round the ring, they are least (a 0 ahead of a 1), the first such place. -1: no such.");
         asked(0, y -> y.turning(0b1010, 4));
         asked(1, y -> y.turning(0b0101, 4));
         asked(1, y -> y.turning(0b1001001, 6));
@@ -129,7 +129,7 @@ final class NumberEdges extends Edges {
         asked(1002000, y -> y.takes(2000, 0));
         asked(2002000, y -> y.takes(0, 2000));
 
-        sentence(30, "whether the one whose turn it is wins: 1, 0. -1: no such.");
+        sentence(30, "HEAPS: whether the one whose turn it is wins: 1, 0. -1: no such.");
         int[] beside = {0, 2, 1, 5, 7, 3, 10, 4, 13};
         for (int i = 0; i < beside.length; i++) {
             int heap = i;
@@ -146,7 +146,8 @@ final class NumberEdges extends Edges {
     }
 
     private void takes() {
-        sentence(31, "from the first heap alone as few as can be: 1000000 and how many; "
+        sentence(31, "HEAPS: what that one takes to win: of the ways that do, "
+                + "from the first heap alone as few as can be: 1000000 and how many; "
                 + "else from the second alone: 2000000 and how many; else from both: 3000000 and how many.");
         asked(1000001, y -> y.takes(1, 0));
         asked(2000001, y -> y.takes(0, 1));

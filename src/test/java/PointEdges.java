@@ -98,10 +98,6 @@ final class PointEdges extends Edges {
         gap(1, 4, 2, 1, 2, -3);
     }
 
-    private void gap(int row, int n, int i, long... due) {
-        askedEach((y, what) -> y.gap(row, n, i, what), due);
-    }
-
     private void gaps() {
         sentence(24, "GAPS of the first n POINTS of a ROW of KIND 4: how many sorts there are. -1: no such.");
         asked(-1, y -> y.gaps(0, 1));
@@ -142,7 +138,8 @@ final class PointEdges extends Edges {
     }
 
     private void follows() {
-        sentence(26, "of the first n (itself, of one). -1: no such.");
+        sentence(26, "The number of the POINT that comes next behind POINT i on the ring, of the first n "
+                + "(itself, of one). -1: no such.");
         asked(-1, y -> y.follows(0, 1, 0));
         taken(0, y -> y.slope(-1, 1, 2, 5));
         taken(0, y -> y.points(0));

@@ -274,7 +274,8 @@ final class RowEdges extends Edges {
             refused(1, y -> y.cut(row, 0, 1, 0, length));
         }
 
-        sentence(6, "the stretches for 0 and 1, each as bits and how many: its number. STATUS 1 (also bits beyond), 2.");
+        sentence(6, "A CUT of a ROW: the stretches for 0 and 1, each as bits and how many: its number. "
+                + "STATUS 1 (also bits beyond), 2.");
         refused(1, y -> y.cut(0, 0, 1, 0, 1));
         taken(0, y -> y.ring(1, 2));
         for (int i = 1; i <= 6; i++) {

@@ -171,7 +171,8 @@ final class SlopeEdges extends Edges {
     }
 
     private void statusOfSlope() {
-        sentence(2, "STATUS 1 (also a square D with B not 0), 2, 3 (it is not above 0, or above 20).");
+        sentence(2, "A SLOPE: its number. STATUS 1 (also a square D with B not 0), 2, "
+                + "3 (it is not above 0, or above 20).");
         refused(1, y -> y.slope(1, 1, 1, 4));
         refused(1, y -> y.slope(1, -1, 1, 49));
         refused(1, y -> y.slope(-1001, 0, 1, 0));
@@ -213,7 +214,8 @@ final class SlopeEdges extends Edges {
     }
 
     private void against() {
-        sentence(11, "less than (-1), is (0), more than (1) a fraction p / q (q 1 .. 10000, p 0 .. 200000). NO: no such.");
+        sentence(11, "Whether a SLOPE is less than (-1), is (0), more than (1) a fraction p / q "
+                + "(q 1 .. 10000, p 0 .. 200000). NO: no such.");
         asked(NO, y -> y.against(0, 1, 1));
         taken(0, y -> y.slope(20, 0, 1, 0));
         taken(1, y -> y.slope(1, 0, 100, 0));
@@ -465,7 +467,8 @@ final class SlopeEdges extends Edges {
     }
 
     private void share() {
-        sentence(27, "share out all numbers from 1 on, each told just once: 0;");
+        sentence(27, "Whether the WHOLES of two SLOPES' multiples (1, 2, 3 .. times) share out all numbers "
+                + "from 1 on, each told just once: 0;");
         taken(0, y -> y.slope(1, 1, 2, 5));
         taken(1, y -> y.slope(3, 1, 2, 5));
         taken(2, y -> y.slope(0, 1, 1, 2));

@@ -115,8 +115,8 @@ final class StretchEdges extends Edges {
         clash(many, 2, 4, 1, 2, 3);
         clash(many, 3, 3, 1, 3, 4);
 
-        sentence(21, "0 the length, 1 where the first begins (a place of the ROW), 2 where the other one does. "
-                + "-1: it is EVEN, or no such.");
+        sentence(21, "THE CLASH of a STRETCH: 0 the length, 1 where the first begins (a place of the ROW), "
+                + "2 where the other one does. -1: it is EVEN, or no such.");
         asked(-1, y -> y.clash(0, 0, 2, 0));
         int two = told(7, 3, 5, 5);
         clash(two, 0, 2, 1, 0, 1);
@@ -143,10 +143,6 @@ final class StretchEdges extends Edges {
         clash(2, 9961, 40, 2, 9962, 9964);
         clash(2, 9962, 40, -1, -1, -1);
         clash(2, 9996, 5, 2, 9996, 9998);
-    }
-
-    private void clash(int row, int from, int n, long... due) {
-        askedEach((y, what) -> y.clash(row, from, n, what), due);
     }
 
     private void range() {
@@ -182,7 +178,8 @@ final class StretchEdges extends Edges {
     }
 
     private void noRange() {
-        sentence(22, "NO: there is none such number, or no such.");
+        sentence(22, "THE RANGE of a STRETCH: 0, 1 the lower fraction's number above and below the line, "
+                + "2, 3 the upper one's. NO: there is none such number, or no such.");
         asked(NO, y -> y.range(0, 0, 1, 0));
         // of 1 1 0 0 the sums want 1 / 2 itself, which is not between; of 1 1 0 0 0 nothing is left
         int row = told(1, 1, 0, 0, 0, 2);
@@ -206,10 +203,6 @@ final class StretchEdges extends Edges {
         range(1, 10000, 1, 0, 1, 2, 1);
         none(1, 10000, 2);
         none(1, 10001, 1);
-    }
-
-    private void range(int row, int from, int n, long... due) {
-        askedEach((y, what) -> y.range(row, from, n, what), due);
     }
 
     private void none(int row, int from, int n) {
@@ -247,7 +240,7 @@ final class StretchEdges extends Edges {
     }
 
     private void partPlaces() {
-        sentence(23, "begin at its places 0 .. 199 (as far as they do not lack)");
+        sentence(23, "begin at its places 0 .. 199 (as far as they do not lack): what 0;");
         taken(1, y -> y.sheet(0, 1, 34));
         taken(1, y -> y.cell(0, 33, 1));
         taken(0, y -> y.row(0, 1, 34));

@@ -11,6 +11,7 @@ final class TermRules extends Edges {
         evens();
         kinds();
         cuts();
+        sums();
         clashes();
         ranges();
         points();
@@ -158,30 +159,41 @@ final class TermRules extends Edges {
         steps(8, 1, 0, 1, 1, 0, 1, 0, 1, -1);
     }
 
+    private void sums() {
+        sentence(0, "SUM of n: the sum of the STEPS at 0 .. n - 1.");
+        taken(0, y -> y.ring(1, 3));
+        taken(1, y -> y.cut(0, 1, 1, 3, 3));
+        steps(1, 1, 1, 1, 1, 0, 1, 1, 1, 1, 0, 1);
+        for (int n : new int[] {0, 1, 2, 3, 4, 5, 63, 64, 65, 66, 127, 128, 129, 191, 9983, 9984, 9985, 9999, 10000}) {
+            asked(n / 3, y -> y.sum(0, n));
+            asked(n - n / 5, y -> y.sum(1, n));
+        }
+    }
+
     private void clashes() {
         sentence(0, "else THE CLASH is two that differ by more: of the least length");
         // sums of 1 and of 2 differ by at most 1, of 3 they are 3 and 1
         int three = told(1, 1, 1, 0, 1, 0);
-        clash(three, 0, 6, 3, 0, 3);
-        clash(three, 0, 5, -1, -1, -1);
-        clash(three, 1, 5, -1, -1, -1);
+        clashOrEven(three, 0, 6, 3, 0, 3);
+        clashOrEven(three, 0, 5, -1, -1, -1);
+        clashOrEven(three, 1, 5, -1, -1, -1);
         int more = told(3, 3, 2, 2, 3);
-        clash(more, 0, 5, 2, 0, 2);
-        clash(more, 0, 3, -1, -1, -1);
-        clash(more, 1, 4, -1, -1, -1);
+        clashOrEven(more, 0, 5, 2, 0, 2);
+        clashOrEven(more, 0, 3, -1, -1, -1);
+        clashOrEven(more, 1, 4, -1, -1, -1);
         // 0 1 0 1 0 ahead and 1 0 1 0 1 1 behind: of 5 they are 2 and 4, of less they are not so far apart
         int five = told(0, 1, 0, 1, 0, 1, 1, 0, 1, 1);
-        clash(five, 0, 10, 5, 0, 5);
-        clash(five, 0, 9, -1, -1, -1);
-        clash(five, 1, 9, -1, -1, -1);
+        clashOrEven(five, 0, 10, 5, 0, 5);
+        clashOrEven(five, 0, 9, -1, -1, -1);
+        clashOrEven(five, 1, 9, -1, -1, -1);
         int last = told(5, 6, 5, 6, 6, 6, 5, 5);
-        clash(last, 0, 8, 2, 3, 6);
-        clash(last, 0, 7, 3, 0, 3);
-        clash(last, 1, 6, -1, -1, -1);
+        clashOrEven(last, 0, 8, 2, 3, 6);
+        clashOrEven(last, 0, 7, 3, 0, 3);
+        clashOrEven(last, 1, 6, -1, -1, -1);
     }
 
-    private void clash(int row, int from, int n, long... due) {
-        askedEach((y, what) -> y.clash(row, from, n, what), due);
+    private void clashOrEven(int row, int from, int n, long... due) {
+        clash(row, from, n, due);
         asked(due[0] < 0 ? 1 : 0, y -> y.isEven(row, from, n));
     }
 
@@ -201,10 +213,6 @@ final class TermRules extends Edges {
         taken(0, y -> y.slope(-1, 1, 2, 5));
         taken(4, y -> y.even(0, 1, 2));
         range(4, 0, 10, 3, 5, 2, 3);
-    }
-
-    private void range(int row, int from, int n, long... due) {
-        askedEach((y, what) -> y.range(row, from, n, what), due);
     }
 
     private void points() {
@@ -249,10 +257,6 @@ final class TermRules extends Edges {
         askedEach((y, i) -> y.follows(row, n, i), due);
     }
 
-    private void gap(int row, int n, int sort, long... due) {
-        askedEach((y, what) -> y.gap(row, n, sort, what), due);
-    }
-
     private void gapSorts() {
         sentence(0, "Their lengths are told by sorts, the greatest first: as x + y s, of the gap behind the POINT "
                 + "with the lowest number: y is the number of the POINT at its end less that of the POINT at its "
@@ -288,15 +292,16 @@ final class TermRules extends Edges {
     }
 
     private void quotients() {
-        sentence(0, "QUOTIENTS of a SLOPE: the WHOLE of it; if it has a PART, then those of 1 by the PART; at most 20.");
+        sentence(0, "QUOTIENTS of a SLOPE: the WHOLE of it; "
+                + "if it has a PART, then those of 1 by the PART; at most 20.");
         taken(0, y -> y.slope(93, 0, 40, 0));
         taken(1, y -> y.slope(10, -1, 1, 50));
         taken(2, y -> y.slope(5, -1, 1, 24));
         taken(3, y -> y.slope(8, -1, 2, 8));
         taken(4, y -> y.slope(6, 0, 2, 0));
         askedEach((y, i) -> y.quotient(0, i), 2, 3, 13, -1);
-        askedEach((y, i) -> y.quotient(1, i), 2, 1, 13, 14, 14, 14, 14, 14, 14, 14, 14, 14, 14, 14, 14, 14, 14, 14, 14, 14,
-                -1);
+        askedEach((y, i) -> y.quotient(1, i),
+                2, 1, 13, 14, 14, 14, 14, 14, 14, 14, 14, 14, 14, 14, 14, 14, 14, 14, 14, 14, -1);
         askedEach((y, i) -> y.quotient(2, i), 0, 9, 1, 8, 1, 8, 1, 8, 1, 8, 1, 8, 1, 8, 1, 8, 1, 8, 1, 8, -1);
         askedEach((y, i) -> y.quotient(3, i), 2, 1, 1, 2, 2, 2, 2, 2, 2, 2, 2, 2, 2, 2, 2, 2, 2, 2, 2, 2, -1);
         askedEach((y, i) -> y.quotient(4, i), 3, -1);
